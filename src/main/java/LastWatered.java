@@ -371,9 +371,11 @@ public final class LastWatered {
 
         static int rained(int stand, int beds) {
             int now = stand & ALL << IN_BLOOM;
+            int place = 0;
             for (int bed = 0; bed < beds; bed++) {
                 if (!hasBloomed(stand, bed)) {
-                    now = watered(now, bed);
+                    now |= Packed.put(bed, place) | 1 << IN_ROW + bed;
+                    place++;
                 }
             }
             return now;
@@ -397,7 +399,7 @@ public final class LastWatered {
             int row = stand & ROW;
             int ahead = row & (1 << Packed.BITS * place) - 1;
             int after = row >>> Packed.BITS * (place + 1);
-            int sets = stand & ~ROW & ~(1 << IN_ROW + bedAt(stand, place));
+            int sets = stand & ~ROW & ~(1 << IN_ROW + Packed.at(row, place));
             return sets | ahead | Packed.put(after, place);
         }
     }
@@ -480,11 +482,8 @@ public final class LastWatered {
             if (!Stand.isInRow(at, bed) && Stand.length(at) >= gate) {
                 return 2;
             }
-            int gatePast = pastOf(bed);
-            if (gatePast == NONE || Stand.isInRow(at, gatePast) || Stand.hasBloomed(at, gatePast)) {
-                return 0;
-            }
-            return 3;
+            int way = pastOf(bed);
+            return way == NONE || Stand.isInRow(at, way) || Stand.hasBloomed(at, way) ? 0 : 3;
         }
 
         /** How it stands after a sign that can be. */
@@ -525,16 +524,12 @@ public final class LastWatered {
         }
 
         int whyImpossible(Pad pad) {
+            int first = firstImpossible(pad);
             int at = stand;
-            for (int place = 0; place < pad.count; place++) {
-                int sign = pad.signAt(place);
-                int why = whyNot(at, sign);
-                if (why != 0) {
-                    return why;
-                }
-                at = after(at, sign);
+            for (int place = 0; place < first; place++) {
+                at = after(at, pad.signAt(place));
             }
-            return NONE;
+            return first == NONE ? NONE : whyNot(at, pad.signAt(first));
         }
 
         /** Does a week all of whose signs can be. */
@@ -912,29 +907,34 @@ public final class LastWatered {
             if (depth < 0 || depth >= week.length || memory.failedWith(slot) >= left) {
                 return false;
             }
-            if (garden.pleases(pad.signAt(wished), garden.nextBed(stand))
-                    && isReachedBy(garden, pad, stand, MORNING, left, depth)) {
-                return true;
-            }
-            for (int bed = 0; left > 0 && bed < garden.beds; bed++) {
-                if (garden.whyNotWater(stand, bed) == 0
-                        && isReachedBy(garden, pad, stand, FIRST_BED + bed, left - 1, depth)) {
-                    return true;
+            int choices = left > 0 ? garden.beds + 2 : 1;
+            for (int choice = 0; choice < choices; choice++) {
+                int sign = signOf(choice, garden.beds);
+                if (isFitting(garden, stand, sign, pad.signAt(wished))) {
+                    week[depth] = sign;
+                    int then = garden.after(stand, sign);
+                    if (isReached(garden, pad, then, sign == MORNING ? left : left - 1, depth + 1)) {
+                        return true;
+                    }
                 }
-            }
-            if (left > 0 && isReachedBy(garden, pad, stand, RAIN, left - 1, depth)) {
-                return true;
             }
             memory.keep(slot, left);
             return false;
         }
 
-        private boolean isReachedBy(Garden garden, Pad pad, int stand, int sign, int left, int depth) {
-            if (depth < 0 || depth >= week.length) {
-                return false;
+        /** The signs in the order in which weeks are compared: the morning, the beds, the rain. */
+        private static int signOf(int choice, int beds) {
+            if (choice == 0) {
+                return MORNING;
             }
-            week[depth] = sign;
-            return isReached(garden, pad, garden.after(stand, sign), left, depth + 1);
+            return choice <= beds ? FIRST_BED + choice - 1 : RAIN;
+        }
+
+        private static boolean isFitting(Garden garden, int stand, int sign, int colour) {
+            if (sign == MORNING) {
+                return garden.pleases(colour, garden.nextBed(stand));
+            }
+            return garden.whyNot(stand, sign) == 0;
         }
     }
 

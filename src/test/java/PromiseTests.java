@@ -370,6 +370,47 @@ public final class PromiseTests {
         due("filled(-2)", x.filled(-2), NONE);
         due("filled(1)", x.filled(1), NONE);
         due("filled(greatest)", x.filled(GREATEST), NONE);
+        staleFillings();
+    }
+
+    /** Each call that changes something is seen by the next search. */
+    private static void staleFillings() {
+        LastWatered x = new LastWatered();
+        write(x, "??");
+        due("filled(-1)", x.filled(-1), 36);
+        x.wipe();
+        due("filled(-1) after wipe", x.filled(-1), 1);
+        x.say('.');
+        due("filled(-1) after say", x.filled(-1), 0);
+        write(x, "a?.");
+        due("filled(-1) of a?.", x.filled(-1), 6);
+        x.seen(0, 3);
+        due("filled(-1) after seen", x.filled(-1), 1);
+        due("filled(0) after seen", x.filled(0), 3);
+        x.image(0);
+        x.forget();
+        due("filled(-1) after forget", x.filled(-1), 6);
+        x.restore(0);
+        due("filled(-1) after restore", x.filled(-1), 1);
+        x.forget();
+        x.past(3, 5);
+        due("filled(-1) after past", x.filled(-1), 5);
+        x.set(1, 1);
+        due("filled(-1) after set", x.filled(-1), 1);
+        x.beds(3);
+        x.set(1, 6);
+        due("filled(-1) after beds", x.filled(-1), 3);
+        write(x, "ab.");
+        due("filled(-1) without ?", x.filled(-1), 1);
+        x.seen(0, 1);
+        due("filled(-1) as seen", x.filled(-1), 1);
+        x.week();
+        due("filled(-1) after week", x.filled(-1), 0);
+        x.forget();
+        write(x, "b");
+        due("filled(-1) of b", x.filled(-1), 0);
+        x.anew();
+        due("filled(-1) after anew", x.filled(-1), 1);
     }
 
     private static void orderIs(LastWatered x, String text, int canBe, String pattern, int behind) {
