@@ -459,6 +459,7 @@ public final class PromiseTests {
         orderIs(x, "dcbaef", 1, none, 1);
         numbersOfOrders(x);
         allOrdersOfFive();
+        allOrdersOfSix();
     }
 
     private static void numbersOfOrders(LastWatered x) {
@@ -495,6 +496,29 @@ public final class PromiseTests {
             }
             due("orders had by gate " + gate, had, x.orders(5, gate));
         }
+    }
+
+    /** All 720 orders of six beds, each against gardens in a line that are really filled and emptied. */
+    private static void allOrdersOfSix() {
+        promise = 20;
+        LastWatered x = new LastWatered();
+        PlainGarden plain = new PlainGarden();
+        int[] answers = new int[4];
+        for (int code = 0; code < 46656; code++) {
+            StringBuilder text = new StringBuilder();
+            for (int rest = code, i = 0; i < 6; i++, rest /= 6) text.append((char) ('a' + rest % 6));
+            write(x, text.toString());
+            if (x.fault(1) != NONE) continue;
+            plain.wipe();
+            for (char c : text.toString().toCharArray()) plain.say(c);
+            int want = plain.behind();
+            due("behind: " + text, x.behind(), want);
+            answers[want == NONE ? 0 : want]++;
+        }
+        due("orders of six by one garden", answers[1], 132);
+        due("orders of six by two gardens", answers[2], 588);
+        due("orders of six by three gardens", answers[3], 0);
+        due("orders of six not by three", answers[0], 0);
     }
 
     private static void wished(LastWatered x, String wish, int fewest, String week) {
