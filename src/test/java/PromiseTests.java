@@ -24,37 +24,15 @@ public final class PromiseTests {
         }
     }
 
-    private static void write(LastWatered x, String text) {
-        x.wipe();
-        for (char c : text.toCharArray()) x.say(c);
-    }
-
-    private static int done(LastWatered x, String text) {
-        write(x, text);
-        return x.week();
-    }
-
-    private static LastWatered after(String text) {
-        LastWatered x = new LastWatered();
-        if (done(x, text) < 0) due("the week " + text, x.judge(0), NONE);
+    private static Tended after(String text) {
+        Tended x = new Tended();
+        if (x.done(text) < 0) due("the week " + text, x.judge(0), NONE);
         return x;
     }
 
-    private static String row(LastWatered x) {
-        StringBuilder text = new StringBuilder();
-        for (int i = 0; i < x.row(-1); i++) text.append((char) ('a' + x.row(i)));
-        return text.toString();
-    }
-
-    private static String bloomed(LastWatered x) {
-        StringBuilder text = new StringBuilder();
-        for (int i = 0; i < x.bloomed(-1); i++) text.append((char) ('a' + x.bloomed(i)));
-        return text.toString();
-    }
-
     /** All that a caller can see, but for what is on the pad. */
-    private static String all(LastWatered x) {
-        StringBuilder text = new StringBuilder(row(x) + "|" + bloomed(x));
+    private static String all(Tended x) {
+        StringBuilder text = new StringBuilder(x.standing());
         for (int what = 1; what <= 25; what++) text.append(' ').append(x.told(what));
         return text.toString();
     }
@@ -69,14 +47,13 @@ public final class PromiseTests {
         chances();
         gardeners();
         images();
-        refusalsChangeNothing();
         System.out.println(checks + " checks of promises, wrong: " + wrong);
         if (wrong > 0) System.exit(1);
     }
 
     private static void gardens() {
         promise = 1;
-        LastWatered x = new LastWatered();
+        Tended x = new Tended();
         due("all of a new object", all(x), "| 6 0 6 3 0 -2 -2 -2 -2 0 0 0 0 0 0 -2 -2 -2 -2 -6 -6 -6 -6 -6 -6");
         due("told(0)", x.told(0), 0);
         due("restore(0)", x.restore(0), STATE);
@@ -94,8 +71,8 @@ public final class PromiseTests {
         x.set(0, 2);
         x.set(1, 4);
         x.set(2, 9);
-        done(x, "ab.");
-        write(x, "xyz");
+        x.done("ab.");
+        x.write("xyz");
         due("beds(5) again", x.beds(5), 5);
         due("all but law, gate, wet is as at first", all(x),
                 "| 5 2 4 9 0 -2 -2 -2 -2 0 0 0 0 0 -2 -2 -2 -2 -2 -6 -6 -6 -6 -6 -2");
@@ -120,7 +97,7 @@ public final class PromiseTests {
 
     private static void pasts() {
         promise = 4;
-        LastWatered x = new LastWatered();
+        Tended x = new Tended();
         due("past(1, 0)", x.past(1, 0), NONE);
         due("past(2, 1)", x.past(2, 1), NONE);
         due("past(3, 2)", x.past(3, 2), NONE);
@@ -143,7 +120,7 @@ public final class PromiseTests {
 
     private static void settings() {
         promise = 5;
-        LastWatered x = new LastWatered();
+        Tended x = new Tended();
         due("set(0, 2)", x.set(0, 2), 0);
         due("set(0, 1)", x.set(0, 1), 2);
         due("set(1, 1)", x.set(1, 1), 6);
@@ -159,7 +136,7 @@ public final class PromiseTests {
 
     private static void pads() {
         promise = 6;
-        LastWatered x = new LastWatered();
+        Tended x = new Tended();
         due("say(32)", x.say(32), OUTSIDE);
         due("say(127)", x.say(127), OUTSIDE);
         due("say(-1)", x.say(-1), OUTSIDE);
@@ -198,7 +175,7 @@ public final class PromiseTests {
         };
         for (String[] f : faults) {
             x.beds(Integer.parseInt(f[1]));
-            write(x, f[0]);
+            x.write(f[0]);
             for (int how = 0; how < 3; how++) {
                 due("fault(" + how + ") of " + f[0], x.fault(how), Integer.parseInt(f[2 + how]));
             }
@@ -207,15 +184,15 @@ public final class PromiseTests {
         due("fault(-1)", x.fault(-1), OUTSIDE);
     }
 
-    private static void judged(LastWatered x, String text, int place, int why) {
-        write(x, text);
+    private static void judged(Tended x, String text, int place, int why) {
+        x.write(text);
         due("judge(0) of " + text, x.judge(0), place);
         due("judge(1) of " + text, x.judge(1), why);
     }
 
     private static void weeks() {
         promise = 9;
-        LastWatered x = new LastWatered();
+        Tended x = new Tended();
         judged(x, "", NONE, NONE);
         judged(x, "abc...", NONE, NONE);
         judged(x, "*.f", 2, 1);
@@ -236,8 +213,8 @@ public final class PromiseTests {
         judged(x, "b.cc", NONE, NONE);
         judged(x, "*c.c", 3, 1);
         judged(x, "*abcdef", NONE, NONE);
-        due("judging changes nothing", row(x) + bloomed(x), "");
-        done(x, "ab");
+        due("judging changes nothing", x.rowText() + x.bloomedText(), "");
+        x.done("ab");
         x.past(1, 3);
         judged(x, "b", 0, 3);
         judged(x, "a", NONE, NONE);
@@ -246,28 +223,28 @@ public final class PromiseTests {
         x.anew();
 
         promise = 10;
-        x = new LastWatered();
+        x = new Tended();
         due("week() of none", x.week(), 0);
-        due("week() of abc..", done(x, "abc.."), 2);
+        due("week() of abc..", x.done("abc.."), 2);
         due("the pad is empty then", x.told(0), 0);
-        due("week() of c", done(x, "c"), NO);
+        due("week() of c", x.done("c"), NO);
         due("the pad stays when refused", x.told(0), 1);
-        due("week() of dd.", done(x, "dd."), 1);
-        due("week() of ?", done(x, "?"), STATE);
-        due("week() of c?", done(x, "c?"), STATE);
-        due("week() of ?g", done(x, "?g"), NO);
-        due("what bloomed", bloomed(x), "cbd");
-        due("the row", row(x), "a");
+        due("week() of dd.", x.done("dd."), 1);
+        due("week() of ?", x.done("?"), STATE);
+        due("week() of c?", x.done("c?"), STATE);
+        due("week() of ?g", x.done("?g"), NO);
+        due("what bloomed", x.bloomedText(), "cbd");
+        due("the row", x.rowText(), "a");
         laws();
         lists();
     }
 
     private static void lawDone(int law, String text, String bloomed, String row) {
-        LastWatered x = new LastWatered();
+        Tended x = new Tended();
         x.set(0, law);
-        done(x, text);
-        due("what bloomed by law " + law + " in " + text, bloomed(x), bloomed);
-        due("the row by law " + law + " after " + text, row(x), row);
+        x.done(text);
+        due("what bloomed by law " + law + " in " + text, x.bloomedText(), bloomed);
+        due("the row by law " + law + " after " + text, x.rowText(), row);
     }
 
     private static void laws() {
@@ -283,7 +260,7 @@ public final class PromiseTests {
     }
 
     private static void lists() {
-        LastWatered x = after("abc.");
+        Tended x = after("abc.");
         promise = 11;
         due("row(-1)", x.row(-1), 2);
         due("row(0)", x.row(0), 0);
@@ -298,24 +275,24 @@ public final class PromiseTests {
         due("bloomed(1)", x.bloomed(1), NONE);
         due("bloomed(-2)", x.bloomed(-2), NONE);
         due("bloomed(greatest)", x.bloomed(GREATEST), NONE);
-        done(x, "*.....");
-        due("all have bloomed", bloomed(x), "cfedba");
+        x.done("*.....");
+        due("all have bloomed", x.bloomedText(), "cfedba");
         due("bloomed(6)", x.bloomed(6), NONE);
         promise = 13;
         x.seen(1, 1);
         x.colour(1, 1);
-        write(x, "ab");
+        x.write("ab");
         due("anew()", x.anew(), 6);
         due("anew() again", x.anew(), 0);
-        due("nothing is left", row(x) + bloomed(x), "");
+        due("nothing is left", x.rowText() + x.bloomedText(), "");
         due("sights stay", x.told(5), 1);
         due("colours stay", x.told(11), 1);
         due("the pad stays", x.told(0), 2);
         due("beds can be watered again", x.judge(0), NONE);
     }
 
-    private static void waysOf(LastWatered x, String text, int ways, String first) {
-        write(x, text);
+    private static void waysOf(Tended x, String text, int ways, String first) {
+        x.write(text);
         due("filled(-1) of " + text, x.filled(-1), ways);
         StringBuilder got = new StringBuilder();
         for (int i = 0; x.filled(i) >= 0; i++) got.append((char) ('a' + x.filled(i)));
@@ -324,7 +301,7 @@ public final class PromiseTests {
 
     private static void fillings() {
         promise = 14;
-        LastWatered x = new LastWatered();
+        Tended x = new Tended();
         due("seen(0, 6)", x.seen(0, 6), UNKNOWN);
         due("seen(48, 6)", x.seen(48, 6), UNKNOWN);
         due("seen(0, -1)", x.seen(0, -1), UNKNOWN);
@@ -349,7 +326,7 @@ public final class PromiseTests {
         waysOf(x, "?.?.?.?.", 360, "abcd");
         waysOf(x, "*.?", 5, "a");
         waysOf(x, "*......?", 0, "");
-        write(x, "?g");
+        x.write("?g");
         due("filled(-1) of a fault", x.filled(-1), NO);
         due("filled(9) of a fault", x.filled(9), NO);
         x.seen(1, 2);
@@ -364,7 +341,7 @@ public final class PromiseTests {
         x.set(1, 1);
         waysOf(x, "??", 5, "aa");
         waysOf(x, "?.?", 21, "ab");
-        done(x, "a.");
+        x.done("a.");
         x.seen(0, 1);
         waysOf(x, "?.", 1, "b");
         due("filled(-2)", x.filled(-2), NONE);
@@ -375,14 +352,14 @@ public final class PromiseTests {
 
     /** Each call that changes something is seen by the next search. */
     private static void staleFillings() {
-        LastWatered x = new LastWatered();
-        write(x, "??");
+        Tended x = new Tended();
+        x.write("??");
         due("filled(-1)", x.filled(-1), 36);
         x.wipe();
         due("filled(-1) after wipe", x.filled(-1), 1);
         x.say('.');
         due("filled(-1) after say", x.filled(-1), 0);
-        write(x, "a?.");
+        x.write("a?.");
         due("filled(-1) of a?.", x.filled(-1), 6);
         x.seen(0, 3);
         due("filled(-1) after seen", x.filled(-1), 1);
@@ -400,21 +377,21 @@ public final class PromiseTests {
         x.beds(3);
         x.set(1, 6);
         due("filled(-1) after beds", x.filled(-1), 3);
-        write(x, "ab.");
+        x.write("ab.");
         due("filled(-1) without ?", x.filled(-1), 1);
         x.seen(0, 1);
         due("filled(-1) as seen", x.filled(-1), 1);
         x.week();
         due("filled(-1) after week", x.filled(-1), 0);
         x.forget();
-        write(x, "b");
+        x.write("b");
         due("filled(-1) of b", x.filled(-1), 0);
         x.anew();
         due("filled(-1) after anew", x.filled(-1), 1);
     }
 
-    private static void orderIs(LastWatered x, String text, int canBe, String pattern, int behind) {
-        write(x, text);
+    private static void orderIs(Tended x, String text, int canBe, String pattern, int behind) {
+        x.write(text);
         promise = 17;
         due("canBe() of " + text, x.canBe(), canBe);
         promise = 19;
@@ -426,7 +403,7 @@ public final class PromiseTests {
     }
 
     private static void orders() {
-        LastWatered x = new LastWatered();
+        Tended x = new Tended();
         String none = "-6 -6 -6 ";
         String no = "-5 -5 -5 ";
         orderIs(x, "abcdef", 1, none, 1);
@@ -455,14 +432,14 @@ public final class PromiseTests {
         x.set(1, 6);
         orderIs(x, "dcbaef", 1, none, 1);
         x.past(0, 5);
-        done(x, "f.");
+        x.done("f.");
         orderIs(x, "dcbaef", 1, none, 1);
         numbersOfOrders(x);
         allOrdersOfFive();
         allOrdersOfSix();
     }
 
-    private static void numbersOfOrders(LastWatered x) {
+    private static void numbersOfOrders(Tended x) {
         promise = 18;
         long[][] numbers = {
             {1, 1, 1}, {1, 30, 1}, {2, 1, 1}, {2, 2, 2}, {3, 3, 5}, {4, 3, 13}, {5, 5, 42}, {6, 6, 132}, {6, 2, 32},
@@ -481,38 +458,28 @@ public final class PromiseTests {
     private static void allOrdersOfFive() {
         promise = 17;
         for (int gate = 1; gate <= 6; gate++) {
-            LastWatered x = new LastWatered();
-            x.beds(5);
-            x.set(1, gate);
             int had = 0;
-            for (int code = 0; code < 3125; code++) {
-                StringBuilder text = new StringBuilder();
-                for (int rest = code, i = 0; i < 5; i++, rest /= 5) text.append((char) ('a' + rest % 5));
-                write(x, text.toString());
-                if (x.fault(1) != NONE) continue;
+            for (String order : Edges.allOrders(5)) {
+                Tended x = Edges.ofBeds(5).write(order);
+                x.set(1, gate);
                 had += x.canBe();
-                if (gate == 6) due("pattern or not: " + text, x.pattern(0) == NONE ? 1 : 0, x.canBe());
-                if (gate == 6) due("behind: " + text, x.behind(), x.canBe() == 1 ? 1 : 2);
+                if (gate == 6) due("pattern or not: " + order, x.pattern(0) == NONE ? 1 : 0, x.canBe());
+                if (gate == 6) due("behind: " + order, x.behind(), x.canBe() == 1 ? 1 : 2);
             }
-            due("orders had by gate " + gate, had, x.orders(5, gate));
+            due("orders had by gate " + gate, had, new Tended().orders(5, gate));
         }
     }
 
     /** All 720 orders of six beds, each against gardens in a line that are really filled and emptied. */
     private static void allOrdersOfSix() {
         promise = 20;
-        LastWatered x = new LastWatered();
         PlainGarden plain = new PlainGarden();
         int[] answers = new int[4];
-        for (int code = 0; code < 46656; code++) {
-            StringBuilder text = new StringBuilder();
-            for (int rest = code, i = 0; i < 6; i++, rest /= 6) text.append((char) ('a' + rest % 6));
-            write(x, text.toString());
-            if (x.fault(1) != NONE) continue;
+        for (String order : Edges.allOrders(6)) {
             plain.wipe();
-            for (char c : text.toString().toCharArray()) plain.say(c);
+            for (char c : order.toCharArray()) plain.say(c);
             int want = plain.behind();
-            due("behind: " + text, x.behind(), want);
+            due("behind: " + order, new Tended().write(order).behind(), want);
             answers[want == NONE ? 0 : want]++;
         }
         due("orders of six by one garden", answers[1], 132);
@@ -521,24 +488,17 @@ public final class PromiseTests {
         due("orders of six not by three", answers[0], 0);
     }
 
-    private static void wished(LastWatered x, String wish, int fewest, String week) {
-        write(x, wish);
+    private static void wished(Tended x, String wish, int fewest, String week) {
+        x.write(wish);
         due("fewest(-1) of " + wish, x.fewest(-1), fewest);
         StringBuilder got = new StringBuilder();
         for (int i = 0; x.fewest(i) >= 0; i++) got.append((char) x.fewest(i));
         due("the first week for " + wish, got.toString(), week);
     }
 
-    private static LastWatered coloured(String colours) {
-        LastWatered x = new LastWatered();
-        x.beds(colours.length());
-        for (int bed = 0; bed < colours.length(); bed++) x.colour(bed, "rwyp".indexOf(colours.charAt(bed)));
-        return x;
-    }
-
     private static void wishes() {
         promise = 21;
-        LastWatered x = coloured("rwypyw");
+        Tended x = Edges.coloured("rwypyw");
         wished(x, "r", 1, "a.");
         wished(x, "?", 1, "a.");
         wished(x, "??", 1, "*..");
@@ -549,32 +509,32 @@ public final class PromiseTests {
         wished(x, "", NO, "");
         wished(x, "rwypywr", NO, "");
         wished(x, "a", NO, "");
-        write(x, "r");
+        x.write("r");
         due("fewest(-2)", x.fewest(-2), NONE);
         due("fewest(2)", x.fewest(2), NONE);
         due("fewest(greatest)", x.fewest(GREATEST), NONE);
-        done(x, "ab.");
+        x.done("ab.");
         wished(x, "r", 0, ".");
         wished(x, "?w", 1, ".f.");
         wished(x, "?w?", 1, ".*..");
         wished(x, "ww", NONE, "");
         x.set(0, 1);
         wished(x, "wr", 2, "fa..");
-        due("searching changes nothing", row(x) + "|" + bloomed(x), "a|b");
-        done(x, "*.....");
+        due("searching changes nothing", x.standing(), "a|b");
+        x.done("*.....");
         wished(x, "?", NONE, "");
 
-        x = coloured("rwy");
+        x = Edges.coloured("rwy");
         x.past(0, 1);
         wished(x, "r", 2, "ba.");
         x.set(1, 1);
         wished(x, "r", 2, "*a.");
         wished(x, "rw", 3, "*a.b.");
-        x = coloured("rwy");
+        x = Edges.coloured("rwy");
         x.set(1, 1);
-        done(x, "a");
+        x.done("a");
         wished(x, "w", 2, "*b.");
-        x = coloured("rwyp");
+        x = Edges.coloured("rwyp");
         x.set(0, 2);
         wished(x, "w", 1, "b.");
         wished(x, "wryp", 1, "*....");
@@ -583,7 +543,7 @@ public final class PromiseTests {
 
     /** Each call that changes something is seen by the next search. */
     private static void staleWishes() {
-        LastWatered x = coloured("rwy");
+        Tended x = Edges.coloured("rwy");
         wished(x, "r", 1, "a.");
         x.colour(0, 1);
         due("fewest(-1) after colour", x.fewest(-1), NONE);
@@ -601,25 +561,25 @@ public final class PromiseTests {
         due("fewest(-1) after restore", x.fewest(-1), 1);
         x.beds(2);
         due("fewest(-1) after beds", x.fewest(-1), NONE);
-        done(x, "ab");
-        write(x, "r");
+        x.done("ab");
+        x.write("r");
         due("fewest(-1) after a week", x.fewest(-1), 0);
         x.anew();
         due("fewest(-1) after anew", x.fewest(-1), 1);
     }
 
-    private static void chanceOf(LastWatered x, String wish, long upper, long lower) {
-        write(x, wish);
+    private static void chanceOf(Tended x, String wish, long upper, long lower) {
+        x.write(wish);
         due("chance(0) of " + wish, x.chance(0), upper);
         due("chance(1) of " + wish, x.chance(1), lower);
     }
 
     private static void chances() {
         promise = 22;
-        LastWatered x = coloured("rw");
+        Tended x = Edges.coloured("rw");
         chanceOf(x, "?", 3, 10);
         chanceOf(x, "??", 3, 10);
-        done(x, "a");
+        x.done("a");
         chanceOf(x, "?", 1, 1);
         chanceOf(x, "r", 7, 10);
         chanceOf(x, "rw", 21, 100);
@@ -638,19 +598,19 @@ public final class PromiseTests {
         chanceOf(x, "a", LOST + NO, LOST + NO);
         due("chance(2)", x.chance(2), LOST + OUTSIDE);
         due("chance(-1)", x.chance(-1), LOST + OUTSIDE);
-        done(x, "*..");
+        x.done("*..");
         chanceOf(x, "?", 0, 1);
-        x = new LastWatered();
+        x = new Tended();
         x.set(0, 1);
         for (int bed = 0; bed < 6; bed++) x.colour(bed, bed % 2);
-        done(x, "f");
+        x.done("f");
         chanceOf(x, "wrwrwr", 7 * 3, 100);
-        due("chances change nothing", row(x) + "|" + bloomed(x), "f|");
+        due("chances change nothing", x.standing(), "f|");
     }
 
     private static void gardeners() {
         promise = 23;
-        LastWatered x = new LastWatered();
+        Tended x = new Tended();
         due("turns(6)", x.turns(6), UNKNOWN);
         due("turns(-1)", x.turns(-1), UNKNOWN);
         due("turns(greatest)", x.turns(GREATEST), UNKNOWN);
@@ -658,28 +618,28 @@ public final class PromiseTests {
         x.beds(3);
         due("turns(3)", x.turns(3), UNKNOWN);
         x.set(0, 1);
-        done(x, "bc");
+        x.done("bc");
         due("turns(0) by the first", x.turns(0), 3);
         due("turns(1) by the first", x.turns(1), 1);
         due("turns(2) by the first", x.turns(2), 1);
-        done(x, ".");
+        x.done(".");
         due("turns(1), b has bloomed", x.turns(1), NONE);
         x.beds(3);
         x.set(0, 0);
         x.past(0, 1);
         due("turns(0), reached past b", x.turns(0), 3);
-        x = new LastWatered();
+        x = new Tended();
         x.set(1, 1);
-        done(x, "b");
+        x.done("b");
         x.past(1, 0);
         due("turns(1), none can be watered", x.turns(1), 1);
         due("turns(0), none can be watered", x.turns(0), 3);
-        due("turns change nothing", row(x) + "|" + bloomed(x), "b|");
+        due("turns change nothing", x.standing(), "b|");
     }
 
     private static void images() {
         promise = 24;
-        LastWatered x = new LastWatered();
+        Tended x = new Tended();
         due("image(2)", x.image(2), OUTSIDE);
         due("image(-1)", x.image(-1), OUTSIDE);
         due("image(0)", x.image(0), 1);
@@ -690,23 +650,23 @@ public final class PromiseTests {
         x.set(1, 3);
         x.set(2, 8);
         x.seen(4, 1);
-        done(x, "dab.c");
+        x.done("dab.c");
         String before = all(x);
         due("image(1)", x.image(1), 1);
-        write(x, "xyz");
+        x.write("xyz");
 
         promise = 25;
         due("restore(2)", x.restore(2), OUTSIDE);
         due("restore(-1)", x.restore(-1), OUTSIDE);
         due("restore(0)", x.restore(0), 1);
-        due("all of the first image", all(x), all(new LastWatered()));
+        due("all of the first image", all(x), all(new Tended()));
         due("the pad stays", x.told(0), 3);
-        done(x, "f.");
+        x.done("f.");
         x.colour(0, 1);
         x.seen(0, 0);
         due("restore(1)", x.restore(1), 1);
         due("all of the second image", all(x), before);
-        write(x, "?..");
+        x.write("?..");
         due("the sight is kept", x.filled(-1), 0);
         x.anew();
         x.restore(1);
@@ -716,47 +676,12 @@ public final class PromiseTests {
         x.beds(6);
         x.restore(0);
         due("an image can be kept anew", all(x), before);
-        due("restore(1) of an object without", new LastWatered().restore(1), STATE);
+        due("restore(1) of an object without", new Tended().restore(1), STATE);
 
         promise = 26;
         int[] outside = {-1, 6, 9, 14, 15, 16, 19, 24, 25, 26, LEAST, GREATEST};
         for (int what : outside) due("told(" + what + ")", x.told(what), OUTSIDE);
         int[][] told = {{0, 3}, {1, 4}, {2, 2}, {3, 3}, {4, 8}, {5, 1}, {10, 0}, {13, 2}, {20, NONE}, {22, 3}, {23, NONE}};
         for (int[] row : told) due("told(" + row[0] + ")", x.told(row[0]), row[1]);
-    }
-
-    private static void refusalsChangeNothing() {
-        promise = 0;
-        LastWatered x = new LastWatered();
-        x.beds(5);
-        x.past(1, 0);
-        for (int i = 0; i < 6; i++) x.seen(i, 0);
-        done(x, "ab.");
-        write(x, "????" + "a".repeat(44));
-        String before = all(x);
-        int[] wrongs = {LEAST, -7, -2, 6, 7, 11, 32, 127, GREATEST};
-        for (int v : wrongs) {
-            for (int w : wrongs) {
-                due("colour", x.colour(v, w), UNKNOWN);
-                due("past", x.past(v, w), UNKNOWN);
-                due("seen", x.seen(v, w), UNKNOWN);
-                due("set", x.set(v, w), OUTSIDE);
-            }
-            due("restore", x.restore(v), OUTSIDE);
-            due("image", x.image(v), OUTSIDE);
-            due("fault", x.fault(v), OUTSIDE);
-            due("judge", x.judge(v), OUTSIDE);
-            due("turns", x.turns(v), UNKNOWN);
-            due("chance", x.chance(v), LOST + OUTSIDE);
-            due("pattern", x.pattern(v), OUTSIDE);
-        }
-        due("past(0, 1)", x.past(0, 1), STATE);
-        due("seen(0, 0)", x.seen(0, 0), FULL);
-        due("say(a)", x.say('a'), FULL);
-        due("week()", x.week(), STATE);
-        due("beds(1)", x.beds(1), OUTSIDE);
-        due("restore(0)", x.restore(0), STATE);
-        due("all is as before", all(x), before);
-        due("the pad is as before", x.wipe(), 48);
     }
 }
