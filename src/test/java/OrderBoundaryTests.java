@@ -63,6 +63,13 @@ public final class OrderBoundaryTests extends Edges {
             due("bacdef by threes", by(6, 2, gate).write("bacdef").canBe(), gate >= 4 ? 1 : 0);
             due("cbadef by threes", by(6, 2, gate).write("cbadef").canBe(), gate >= 5 ? 1 : 0);
             due("dcbaef by threes", by(6, 2, gate).write("dcbaef").canBe(), gate >= 6 ? 1 : 0);
+            for (int n : new int[] {2, 3}) {
+                for (String order : allOrders(n)) {
+                    due("by threes of no more than three", by(n, 2, gate).write(order).canBe(), order.equals(letters(n)) ? 1 : 0);
+                }
+            }
+            due("bacd by threes, four beds", by(4, 2, gate).write("bacd").canBe(), gate >= 4 ? 1 : 0);
+            due("cbad by threes, no fifth bed", by(4, 2, gate).write("cbad").canBe(), 0);
             due("edcbaf by threes", by(6, 2, gate).write("edcbaf").canBe(), 0);
         }
     }

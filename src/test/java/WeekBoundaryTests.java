@@ -390,6 +390,8 @@ public final class WeekBoundaryTests extends Edges {
 
     private static void fillingsWithoutUntold() {
         sentence(16, "how many ways (i = -1), the BED of the i-th ? in the first; NONE.");
+        due("filled(-1), the first call of all", new Tended().filled(-1), 1);
+        due("filled(0), the first call of all", new Tended().filled(0), NONE);
         String[][] weeks = {{"", "1"}, {"ab.", "1"}, {".", "0"}, {"a..", "0"}, {"a".repeat(48), "1"}};
         for (String[] week : weeks) {
             Tended x = new Tended().write(week[0]);
