@@ -77,6 +77,17 @@ abstract class Edges {
         }
     }
 
+    /** All texts of these signs, up to this length, the shorter ones first. */
+    static List<String> texts(String signs, int length) {
+        List<String> all = new ArrayList<>();
+        all.add("");
+        for (int from = 0, round = 0; round < length; round++) {
+            int to = all.size();
+            for (; from < to; from++) for (char c : signs.toCharArray()) all.add(all.get(from) + c);
+        }
+        return all;
+    }
+
     /** A garden of as many beds as there are letters of colours. */
     static Tended coloured(String colours) {
         Tended x = new Tended();
@@ -88,6 +99,12 @@ abstract class Edges {
     static Tended ofBeds(int n) {
         Tended x = new Tended();
         x.beds(n);
+        return x;
+    }
+
+    static Tended lawful(int n, int law) {
+        Tended x = ofBeds(n);
+        x.set(0, law);
         return x;
     }
 
